@@ -852,7 +852,7 @@ public final class Addressloom {
                     cutLast(left);
                     names--;
                 } else if (!lastWent) {
-                    left.append(path.substring(from, to));
+                    Texts.addPart(left, path, from, to);
                     left.append('/');
                     names += isUp ? 0 : 1;
                 }
@@ -1028,10 +1028,17 @@ public final class Addressloom {
         /** The text with another one in the place of its signs from one index to another one. */
         private static String replaced(String text, int from, int to, String by) {
             StringBuilder out = new StringBuilder();
-            out.append(text.substring(0, from));
+            addPart(out, text, 0, from);
             out.append(by);
-            out.append(text.substring(to));
+            addPart(out, text, to, text.length());
             return out.toString();
+        }
+
+        /** Sign by sign, since a substring would take room of its own. */
+        private static void addPart(StringBuilder out, String text, int from, int to) {
+            for (int i = Math.max(0, from); i < to && i < text.length(); i++) {
+                out.append(text.charAt(i));
+            }
         }
 
         private static boolean beginsWith(String text, char sign) {
@@ -1116,11 +1123,14 @@ public final class Addressloom {
             return hash;
         }
 
+        /** The sign at an index, by small letters where these are the same as great ones. */
         private static char sign(String text, int i, int how) {
             char sign = text.charAt(i);
+            if (how == EXACTLY || sign < 'A' || sign > 'Z') {
+                return sign;
+            }
             boolean isBehindPercent = i >= 1 && text.charAt(i - 1) == '%' || i >= 2 && text.charAt(i - 2) == '%';
-            boolean isFolded = how == BROADLY || how == PLAINLY && isBehindPercent;
-            return isFolded && sign >= 'A' && sign <= 'Z' ? (char) (sign - 'A' + 'a') : sign;
+            return how == BROADLY || isBehindPercent ? (char) (sign - 'A' + 'a') : sign;
         }
     }
 }
