@@ -9,6 +9,8 @@ final class Check {
 
     private static int wrong = 0;
     private static int held = 0;
+    /** What the document says that is tested just now; "" where a test names none. */
+    private static String sentence = "";
 
     interface Call {
         Object make();
@@ -17,11 +19,16 @@ final class Check {
     private Check() {
     }
 
+    /** The answers from here on are held against this sentence of the document. */
+    static void sentence(String told) {
+        sentence = "[" + told + "] ";
+    }
+
     static void due(String call, Object got, Object want) {
         held++;
         if (!want.equals(got)) {
             wrong++;
-            System.out.println(call + " answered " + got + ", due is " + want);
+            System.out.println(sentence + call + " answered " + got + ", due is " + want);
         }
     }
 
@@ -76,6 +83,21 @@ final class Check {
         }
     }
 
+    /** Weaves an address told as scheme, authority, path, query and fragment, parted by blanks; "-" is none. */
+    static void weave(Addressloom x, int cell, String told) {
+        draft(x, told);
+        if (x.weave(cell) == -9) {
+            throw new IllegalStateException("a test wove what is faulty: " + x.draft());
+        }
+    }
+
+    /** Sets the whole draft, told in the same way. */
+    static void draft(Addressloom x, String told) {
+        String[] parts = told.split(" ", -1);
+        draft(x, Told.part(Told.SCHEMES, parts[0]), Told.part(Told.AUTHORITIES, parts[1]), parts[2],
+                Told.part(Told.QUERIES, parts[3]), Told.part(Told.FRAGMENTS, parts[4]));
+    }
+
     static void weavePath(Addressloom x, int cell, String path) {
         weave(x, cell, 0, 0, path, 0, 0);
     }
@@ -91,6 +113,10 @@ final class Check {
         static final String[] FRAGMENTS = {null, "", "f", "F", "%4a", "%4A"};
 
         private Told() {
+        }
+
+        static int part(String[] table, String part) {
+            return number(table, part.equals("-") ? null : part);
         }
 
         static int number(String[] table, String text) {

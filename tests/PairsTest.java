@@ -10,21 +10,10 @@ final class PairsTest {
         Check.end("PairsTest");
     }
 
-    /** Weaves an address told as scheme, authority, path, query and fragment, parted by blanks; "-" is none. */
-    private static void weave(Addressloom x, int cell, String told) {
-        String[] parts = told.split(" ", -1);
-        Check.weave(x, cell, number(Check.Told.SCHEMES, parts[0]), number(Check.Told.AUTHORITIES, parts[1]),
-                parts[2], number(Check.Told.QUERIES, parts[3]), number(Check.Told.FRAGMENTS, parts[4]));
-    }
-
-    private static int number(String[] table, String part) {
-        return Check.Told.number(table, part.equals("-") ? null : part);
-    }
-
     private static void relative(String base, String given, String want) {
         Addressloom x = new Addressloom();
-        weave(x, 0, base);
-        weave(x, 1, given);
+        Check.weave(x, 0, base);
+        Check.weave(x, 1, given);
         String call = "the relative of " + x.text(1) + " by " + x.text(0);
         Check.due(call, x.relativeText(0, 1), want);
         Check.due("house(2) behind relativeText", x.house(2), 0);
@@ -99,8 +88,8 @@ final class PairsTest {
 
     private static void pair(String one, String other, int order) {
         Addressloom x = new Addressloom();
-        weave(x, 0, one);
-        weave(x, 1, other);
+        Check.weave(x, 0, one);
+        Check.weave(x, 1, other);
         String both = " of " + x.text(0) + " and " + x.text(1);
         for (int how = 0; how <= 1; how++) {
             Check.due("order" + both, x.order(0, 1, how), order);
@@ -199,10 +188,10 @@ final class PairsTest {
 
     private static void counts() {
         Addressloom x = new Addressloom();
-        weave(x, 1, "http a.b /a - -");
-        weave(x, 2, "- - %4a - -");
-        weave(x, 3, "HTTP A.b /a - -");
-        weave(x, 5, "http A.b /a - -");
+        Check.weave(x, 1, "http a.b /a - -");
+        Check.weave(x, 2, "- - %4a - -");
+        Check.weave(x, 3, "HTTP A.b /a - -");
+        Check.weave(x, 5, "http A.b /a - -");
         int[] first = {0, 1, 2, 1, 0, 1};
         int[] last = {4, 5, 2, 5, 4, 5};
         int[] like = {2, 3, 1, 3, 2, 3};

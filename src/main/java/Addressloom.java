@@ -379,7 +379,7 @@ public final class Addressloom {
             for (int other = 0; other < CELLS; other++) {
                 if (one != other) {
                     sum = mixed(sum, Holding.place(cells[one], cells[other]));
-                    sum = mixed(sum, Relatives.told(cells[one], cells[other]));
+                    sum = mixedRelative(sum, cells[one], cells[other]);
                 }
             }
         }
@@ -493,13 +493,13 @@ public final class Addressloom {
     private boolean isCellSound(Address one, Address normalForm) {
         joined.setLength(0);
         Texts.joinWhole(joined, one.scheme, one.rest, one.fragment);
-        if (!joined.toString().equals(one.whole)) {
+        if (!Texts.isJoined(joined, one.whole)) {
             return false;
         }
         if (!one.isOpaque) {
             joined.setLength(0);
             Texts.joinRest(joined, one.authority, one.path, one.query);
-            if (!joined.toString().equals(one.rest)) {
+            if (!Texts.isJoined(joined, one.rest)) {
                 return false;
             }
         }
@@ -537,11 +537,24 @@ public final class Addressloom {
     }
 
     private static long mixed(long sum, String text) {
-        long all = mixed(sum, text.length());
-        for (int i = 0; i < text.length(); i++) {
+        return mixedFrom(sum, text, 0);
+    }
+
+    private static long mixedFrom(long sum, String text, int from) {
+        long all = mixed(sum, text.length() - from);
+        for (int i = Math.max(0, from); i < text.length(); i++) {
             all = mixed(all, text.charAt(i));
         }
         return all;
+    }
+
+    /** Out of the given one's text, since each relative text made anew would take room of its own. */
+    private static long mixedRelative(long sum, Address base, Address given) {
+        int behind = Relatives.behind(base, given);
+        if (behind == LEFT_OPEN) {
+            return mixed(sum, NONE);
+        }
+        return mixedFrom(sum, given.whole, behind == GIVEN_ONE ? 0 : given.pathAt + behind);
     }
 
     private long mixedCell(long sum, Address one) {
@@ -1023,6 +1036,14 @@ public final class Addressloom {
                 out.append('?');
                 out.append(query);
             }
+        }
+
+        private static boolean isJoined(StringBuilder joined, String text) {
+            boolean isSo = joined.length() == text.length();
+            for (int i = 0; i < text.length() && isSo; i++) {
+                isSo = joined.charAt(i) == text.charAt(i);
+            }
+            return isSo;
         }
 
         /** The text with another one in the place of its signs from one index to another one. */
