@@ -322,7 +322,7 @@ final class PartsEdgesTest {
     }
 
     private static void colonInFirstPiece() {
-        Check.sentence("4: (3) if it does not begin with \"/\", and the first PIECE left has a \":\", \"./\" comes ahead");
+        Check.sentence("4: (3) if it does not begin with \"/\", and the first has a \":\", \"./\" comes ahead");
         normal("./d:e", "./d:e");
         normal("./d:e/", "./d:e/");
         normal("././d:e", "./d:e");
